@@ -31,6 +31,9 @@ public final class RazorTalk {
     // The words of CLAUSES: 0 .. 3 are the KINDS, so that a word tells the KIND at once.
     private static final int TOWN_WORD = 4, RUMOUR_WORD = 5, BEARD_WORD = 6, WORDS = 7;
 
+    // The sorts of letters: an OTHER one is a TOKEN by itself.
+    private static final int OTHER = 0, SMALL = 1, DIGIT = 2;
+
     private final Script script;
     private final Town town;
     private final Standing standing;
@@ -533,7 +536,7 @@ public final class RazorTalk {
             }
         }
 
-        /** What stands behind this CLAUSE is read as if it were done, so that TOWNs and PEOPLE of this text count. */
+        /** A CLAUSE counts for what stands behind it, though nothing is done yet. */
         private void countIn(int word) {
             switch (word) {
                 case TOWN_WORD: people = 0; rumours = 0; break;
@@ -556,23 +559,18 @@ public final class RazorTalk {
             begin = end;
             while (begin < length && letters.at(begin) == ' ') begin++;
             end = Math.min(length, begin + 1);
-            while (end < length && isOneRow(begin, end)) end++;
+            int sort = sortAt(begin);
+            while (end < length && sort != OTHER && sortAt(end) == sort) end++;
         }
 
-        private boolean isOneRow(int one, int other) {
-            return isSmall(one) && isSmall(other) || isDigit(one) && isDigit(other);
-        }
-
-        private boolean isSmall(int place) {
-            return letters.at(place) >= 'a' && letters.at(place) <= 'z';
-        }
-
-        private boolean isDigit(int place) {
-            return letters.at(place) >= '0' && letters.at(place) <= '9';
+        private int sortAt(int place) {
+            int letter = letters.at(place);
+            if (letter >= 'a' && letter <= 'z') return SMALL;
+            return letter >= '0' && letter <= '9' ? DIGIT : OTHER;
         }
 
         private int numberHere() {
-            if (begin >= length || !isDigit(begin) || end - begin > MOST_DIGITS) return NONE;
+            if (begin >= length || sortAt(begin) != DIGIT || end - begin > MOST_DIGITS) return NONE;
             int number = 0;
             for (int place = begin; place < end; place++) number = number * 10 + letters.at(place) - '0';
             return number;

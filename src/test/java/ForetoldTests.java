@@ -13,6 +13,7 @@ final class ForetoldTests {
         next();
         nextByWhatIsKnown();
         meet();
+        meetOfFour();
         meetTheLowest();
         meetNobody();
         round();
@@ -107,6 +108,8 @@ final class ForetoldTests {
         }
         Check.due("next(0, 0), all are known", x.next(0, 0), NONE);
         Check.due("knows(0, 0, 2)", x.knows(0, 0, 2), 3);
+        x = Check.told("town 2;plain 63" + ";rumour 62".repeat(8));
+        Check.due("next(0, 0), all eight are alike", x.next(0, 0), 0);
         // Two of one number are two: strip 5 parts 3 from 1, strips 0 .. 3 part 2 from 2.
         x = Check.told("town 2;plain 63;rumour 47;rumour 32;rumour 32;rumour 15");
         Check.due("next(0, 0) by numbers told twice", x.next(0, 0), 0);
@@ -139,6 +142,19 @@ final class ForetoldTests {
         Check.due("meet(-1, 0)", x.meet(-1, 0), UNKNOWN);
         Check.due("meet(0, 4)", x.meet(0, 4), UNKNOWN);
         Check.due("meet(0, -1)", x.meet(0, -1), UNKNOWN);
+    }
+
+    private static void meetOfFour() {
+        Check.begin("promise 20, all four");
+        RazorTalk x = Check.told("town 4;plain 0;rumour 0;rumour 1;rumour 2;rumour 4;rumour 8");
+        for (int barber = 0; barber < 4; barber++) {
+            Check.due("meet(0, 0)", x.meet(0, 0), NONE);
+            x.shave(barber, 0, barber);
+        }
+        Check.due("meet(0, 0), all of them", x.meet(0, 0), 15);
+        Check.tell(x, "town 1;plain 0;rumour 0;rumour 1");
+        x.shave(0, 0, 0);
+        Check.due("meet(0, 0), the only one", x.meet(0, 0), 1);
     }
 
     private static void meetTheLowest() {

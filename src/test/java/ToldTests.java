@@ -71,6 +71,8 @@ final class ToldTests {
         Check.due("fault() of p", x.fault(), 0);
         Check.write(x, "lain");
         Check.due("fault() where a blank and a number stood once", x.fault(), 5);
+        x.write(' ');
+        Check.due("fault() where a number stood once", x.fault(), 6);
         Check.due("town()", x.town(), NOT);
         Check.due("count(1)", x.count(1), 0);
     }
@@ -96,6 +98,8 @@ final class ToldTests {
         fault("plain 1 2", 8);
         fault("plainplain 1", 0);
         fault("plains 1", 0);
+        fault("plainz 1", 0);
+        fault("plaina 1", 0);
         fault("plai 1", 0);
         fault("plai n 1", 0);
         fault("Plain 1", 0);
@@ -171,6 +175,9 @@ final class ToldTests {
         fault("rumour 1;rumour 1;rumour 1;rumour 1;rumour 1;rumour 1;rumour 1;rumour 1", NONE);
         fault("rumour 1;rumour 1;rumour 1;rumour 1;rumour 1;rumour 1;rumour 1;rumour 1;rumour 64", 72);
         fault("rumour 1;rumour 1;rumour 1;rumour 1;rumour 1;rumour 1;rumour 1;rumour 1;town 1;rumour 1", NONE);
+        fault("rumour 1;town 1" + ";rumour 1".repeat(8), NONE);
+        fault("rumour 1;town 1" + ";rumour 1".repeat(9), 88);
+        fault("plain 1;town 1" + ";plain 1".repeat(7), 63);
         fault("plain 1;town 3;beard 0 0 0", 21);
         fault("beard 0 0 0;plain 1", 6);
         RazorTalk x = Check.told("plain 1;plain 1;plain 1;plain 1;plain 1");
