@@ -8,6 +8,12 @@ public final class AllTests {
         DoneTests.run();
         ForetoldTests.run();
         SeenTests.run();
+        ToldEdges.run();
+        AskedEdges.run();
+        DoneEdges.run();
+        ForetoldEdges.run();
+        SeenEdges.run();
+        Edge.everyPromiseHasSome();
         RandomRuns.run();
         LanguageTests.run();
         System.out.println(Check.right() + " answers are as due, " + Check.wrong() + " are not");
