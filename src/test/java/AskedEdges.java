@@ -108,9 +108,7 @@ final class AskedEdges {
 
         Edge.of(9, "What a BARBER knows of one: STRIPS (what 0, bits), PARTS that are 1 of these (1, bits)");
         x = fullTown();
-        for (int barber = 0; barber < 4; barber++) {
-            for (int person = 0; person < 6; person++) x.shave(barber, person, (barber + person) % 6);
-        }
+        allKnowOneStrip(x);
         for (int barber = 0; barber < 4; barber++) {
             for (int person = 0; person < 6; person++) {
                 int due = 1 << (barber + person) % 6;
@@ -123,6 +121,13 @@ final class AskedEdges {
     /** Four barbers, six people: three of secret 63, three of secret 0. */
     static RazorTalk fullTown() {
         return Check.told("town 4;plain 63;plain 63;plain 63;plain 0;plain 0;plain 0");
+    }
+
+    /** Each barber of fullTown() shaves one strip of each one. */
+    static void allKnowOneStrip(RazorTalk x) {
+        for (int barber = 0; barber < 4; barber++) {
+            for (int person = 0; person < 6; person++) x.shave(barber, person, (barber + person) % 6);
+        }
     }
 
     private static void knowsRefused() {

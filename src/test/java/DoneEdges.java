@@ -255,6 +255,21 @@ final class DoneEdges {
             Check.holds("all is as it was", ahead[left].equals(Check.picture(x)));
         }
 
+        x = AskedEdges.fullTown();
+        AskedEdges.allKnowOneStrip(x);
+        x.keep(1);
+        x.back(1);
+        String full = Check.picture(x);
+        for (int person = 0; person < 6; person++) x.burn(3, person);
+        x.day();
+        x.talk(2, 3, 5);
+        for (int n = 0; n < 8; n++) x.undo();
+        Check.holds("all of four barbers and six people is as it was", full.equals(Check.picture(x)));
+        x.burn(3, 5);
+        x.shave(3, 1, 5);
+        x.back(1);
+        Check.holds("all of four barbers and six people is as it was kept", full.equals(Check.picture(x)));
+
         Edge.of(15, "(also one by which nothing became other;");
         x = Check.told("town 2;reserved 0");
         x.shave(0, 0, 2);

@@ -226,6 +226,13 @@ final class ForetoldEdges {
         Check.due("meet(0, 0), one alone", x.meet(0, 0), 1);
         Check.due("meet(0, 1), one alone", x.meet(0, 1), 2);
         Check.due("meet(0, 2)", x.meet(0, 2), NONE);
+        x = Check.told("town 2;nicked 1;beard 0 0 5;rumour 0;rumour 1;rumour 2;rumour 3");
+        x.shave(0, 0, 0);
+        x.shave(1, 0, 0);
+        x.shave(1, 0, 1);
+        Check.due("meet(0, 0), strip 0 by barber 0, strip 1 by barber 1", x.meet(0, 0), 3);
+        Check.due("meet(0, 1), both strips by barber 1", x.meet(0, 1), 2);
+        Check.due("meet(0, 3)", x.meet(0, 3), NONE);
     }
 
     private static void meetRefused() {

@@ -29,12 +29,22 @@ final class SeenEdges {
         return x;
     }
 
+    /** All six are true of the only one; with a 0 in place of any they would not be. */
+    private static RazorTalk sixTrue() {
+        RazorTalk x = Check.told("plain 63");
+        for (int strip = 0; strip < 6; strip++) x.seen(strip, 0, 1);
+        Check.due("was() by six", x.was(), 1);
+        return x;
+    }
+
     private static void seenAtMost() {
         Edge.of(22, "SEEN, 6 at most");
         RazorTalk x = new RazorTalk();
         for (int n = 1; n <= 6; n++) Check.due("seen(5, 9, 1)", x.seen(5, 9, 1), n);
         Edge.refused(SeenEdges::sixSeen, "a seventh", FULL, y -> y.seen(0, 0, 0));
         Edge.refused(SeenEdges::sixSeen, "a seventh, of nothing told", FULL, y -> y.seen(5, 9, NONE));
+        Edge.refused(SeenEdges::sixTrue, "a seventh that would not be so", FULL, y -> y.seen(0, 0, 0));
+        Edge.refused(SeenEdges::sixTrue, "a seventh that would be so", FULL, y -> y.seen(0, 0, 1));
         x = sixSeen();
         x.forget();
         Check.due("seen(0, 0, 0) where six were", x.seen(0, 0, 0), 1);

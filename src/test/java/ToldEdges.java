@@ -121,7 +121,11 @@ final class ToldEdges {
         x = Edge.busy();
         x.erase();
         Check.due("fault() behind erase()", x.fault(), 0);
-        Check.due("count(7) behind erase()", x.count(7), 4);
+        Check.write(x, "plain 5");
+        Check.holds("nothing else changes by it", Check.picture(x).equals(Check.picture(Edge.busy())));
+        Check.due("undo() behind it", x.undo(), 3);
+        Check.due("back(0) behind it", x.back(0), 0);
+        Check.due("back(1) behind it", x.back(1), 1);
 
         Edge.of(3, "THE TEXT is empty");
         x = new RazorTalk();
