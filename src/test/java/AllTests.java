@@ -13,9 +13,11 @@ public final class AllTests {
         DoneEdges.run();
         ForetoldEdges.run();
         SeenEdges.run();
+        RefusedEdges.run();
         Edge.everyPromiseHasSome();
         RandomRuns.run();
         LanguageTests.run();
+        ReadmeTests.run();
         System.out.println(Check.right() + " answers are as due, " + Check.wrong() + " are not");
         if (Check.wrong() != 0 || Check.right() == 0) System.exit(1);
     }
